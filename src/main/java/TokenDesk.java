@@ -418,8 +418,7 @@ public final class TokenDesk {
         /** NOWHERE if no sign stands there. */
         int signKind(int first) {
             for (int row = 0; row + SIGN_WIDTH <= SIGNS.length(); row += SIGN_WIDTH) {
-                int length = signLength(row);
-                if (isSign(row, length, first)) {
+                if (isSign(row, first)) {
                     return KIND_FIRST_SIGN + row / SIGN_WIDTH;
                 }
             }
@@ -439,8 +438,9 @@ public final class TokenDesk {
             return length;
         }
 
-        private boolean isSign(int row, int length, int first) {
-            for (int i = 0; i < length && row + i < SIGNS.length(); i++) {
+        private boolean isSign(int row, int first) {
+            int length = signLength(row);
+            for (int i = 0; i < length; i++) {
                 if (SIGNS.charAt(row + i) != text.letterAt(first + i)) {
                     return false;
                 }
