@@ -5,10 +5,27 @@ final class Check {
         int run();
     }
 
+    private static String sentence = "";
     private static int compared = 0;
+    private static int comparedBefore = 0;
     private static int wrong = 0;
 
     private Check() {
+    }
+
+    /** What is compared from here on is due by these words of the document. */
+    static void sentence(String words) {
+        endSentence();
+        sentence = words;
+    }
+
+    private static void endSentence() {
+        boolean untested = !sentence.isEmpty() && compared == comparedBefore;
+        if (untested) {
+            wrong++;
+            System.out.println("nothing is compared for: " + sentence);
+        }
+        comparedBefore = compared;
     }
 
     /** What a call answers, or the name of the exception that it throws. */
@@ -33,12 +50,14 @@ final class Check {
         if (!got.equals(want)) {
             wrong++;
             if (wrong <= 20) {
-                System.out.println(Texts.shown(what) + ": " + got + ", due is " + want);
+                String words = sentence.isEmpty() ? "" : "[" + sentence + "] ";
+                System.out.println(words + Texts.shown(what) + ": " + got + ", due is " + want);
             }
         }
     }
 
     static void end(String test) {
+        endSentence();
         System.out.println(test + ": " + compared + " answers, " + wrong + " not as due");
         if (wrong != 0 || compared == 0) {
             System.exit(1);
