@@ -59,6 +59,8 @@ public final class Promise3TextTermsTest {
         Texts.dueWrong("a\n  b\n c\u0000", 8);
         Texts.dueWrong("$ # \t", 4);
         Texts.dueWrong("'''\u0001\u0002", 3);
+        Texts.dueWrong("\u0001\u0002", 0);
+        Texts.dueWrong("a \u0080 b \u0081", 2);
         Texts.dueWrong("$" + "x".repeat(4094) + "\u007f", 4095);
     }
 

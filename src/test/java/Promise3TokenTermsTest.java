@@ -187,6 +187,11 @@ public final class Promise3TokenTermsTest {
         for (String q : new String[] {"'", "\""}) {
             String other = q.equals("'") ? "\"" : "'";
             String three = q.repeat(3);
+            for (char c = 32; c < 127; c++) {
+                boolean plain = c != q.charAt(0) && c != '\\';
+                String inside = plain ? ("" + c).repeat(3) : "";
+                allOf(7, q + inside + q, three + inside + three);
+            }
             allOf(7, q + q, q + other + q, q + other.repeat(3) + q, q + "a" + other + "b" + q);
             allOf(7, three + three, three + q + "a" + three, three + "a" + q + q + "b" + three, three + "\n\n" + three);
             allOf(7, three + other.repeat(3) + three, three + q + " " + three, three + q + q + " " + three);
